@@ -1,3 +1,5 @@
+import java.time.YearMonth;
+
 /** Promises 10 to 15: used, score, many, width, cell and signAt. */
 public final class ReadingTest {
     private static final Class<IllegalArgumentException> BAD_ARGUMENT = IllegalArgumentException.class;
@@ -17,6 +19,7 @@ public final class ReadingTest {
         kindsAndValues();
         decimalsWithEachMark();
         dates();
+        allMonths();
         cellAsksInOrder();
         signAt();
         check.end();
@@ -311,6 +314,29 @@ public final class ReadingTest {
         kind("1/1", 5, 3);
         kind("1.1/2020", 5, 8);
         kind("1/1.2020", 5, 8);
+    }
+
+    /** The first and the last day of each month, and the day behind that, which is none. */
+    private static void allMonths() {
+        Tallow importer = parted("", 3);
+        int days = 0;
+        for (int year = 1900; year <= 2099; year++) {
+            for (int month = 1; month <= 12; month++) {
+                int length = YearMonth.of(year, month).lengthOfMonth();
+                importer.clear();
+                importer.three(1, month, year, 9);
+                importer.sign(3);
+                importer.three(length, month, year, 9);
+                importer.sign(3);
+                importer.three(length + 1, month, year, 9);
+                String name = month + "/" + year;
+                check.same("the first of " + name, importer.cell(0, 0, 1), days);
+                check.same("the last of " + name, importer.cell(0, 1, 1), days + length - 1);
+                check.same("kind of the last of " + name, importer.cell(0, 1, 0), 3);
+                check.same("kind of the day behind " + name, importer.cell(0, 2, 0), 5);
+                days += length;
+            }
+        }
     }
 
     private static void cellAsksInOrder() {

@@ -11,6 +11,8 @@ public final class WritingTest {
         letters();
         three();
         clear();
+        readBetweenWrites();
+        readBehindClear();
         check.end();
     }
 
@@ -145,5 +147,52 @@ public final class WritingTest {
         Tallow full = withSigns(500);
         check.same("clear of a full text", full.clear(), 500);
         check.same("room behind clear", full.sign(0), 1);
+    }
+
+    /** What is read between two writes must not hold behind the second one. */
+    private static void readBetweenWrites() {
+        Tallow importer = new Tallow();
+        check.same("rows ahead of all", importer.many(1), 0);
+        importer.sign(20);
+        check.same("rows behind sign", importer.many(1), 1);
+        importer.digits(12);
+        check.same("signs of the cell behind digits", importer.cell(0, 0, 2), 3);
+        importer.letters(0, 4);
+        check.same("signs of the cell behind letters", importer.cell(0, 0, 2), 7);
+        importer.three(1, 2, 3, 0);
+        check.same("width behind three", importer.width(0), 3);
+        check.same("score behind three", importer.score(0), 103);
+        importer.clear();
+        check.same("rows behind clear", importer.many(1), 0);
+        check.same("score behind clear", importer.score(0), 0);
+        Check.write(importer, "1\n");
+        check.same("kept ahead of more", importer.keptWith(2), 1);
+        Check.write(importer, "2\n");
+        check.same("kept behind more, asked first", importer.keptWith(2), 2);
+    }
+
+    /** Signs of the text ahead of clear stand no more behind the end of a shorter one. */
+    private static void readBehindClear() {
+        Tallow importer = Check.of("abc\"\"");
+        importer.clear();
+        Check.write(importer, "\"a\"");
+        check.same("the quote at the end is the last one", importer.cell(0, 0, 3), 0);
+        check.same("and not in the cell", importer.cell(0, 0, 2), 1);
+        Tallow parted = Check.of("a|\"");
+        parted.tell(0, 3);
+        parted.clear();
+        Check.write(parted, "a|");
+        check.same("no quote behind the last parter", parted.many(6), 0);
+        check.same("two cells", parted.width(0), 2);
+        parted.clear();
+        Check.write(parted, "b");
+        check.same("no parter behind the last letter", parted.width(0), 1);
+        parted.clear();
+        Check.write(parted, "1|2|3\n4|5\n6|7|8\n9|0|1\n");
+        check.same("three columns", parted.many(2), 3);
+        parted.clear();
+        Check.write(parted, "1|2");
+        check.same("two columns", parted.many(2), 2);
+        check.same("score of two columns", parted.score(3), 102);
     }
 }
