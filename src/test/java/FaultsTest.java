@@ -23,35 +23,17 @@ public final class FaultsTest {
         return importer;
     }
 
-    /** All faults, each as row,column,code. */
-    private static String faults(Tallow importer) {
-        StringBuilder shown = new StringBuilder();
-        for (int fault = 0; fault < importer.many(4); fault++) {
-            shown.append(fault == 0 ? "" : " ").append(importer.fault(fault, 0)).append(',')
-                .append(importer.fault(fault, 1)).append(',').append(importer.fault(fault, 2));
-        }
-        return shown.toString();
-    }
-
-    private static String keptRows(Tallow importer) {
-        StringBuilder shown = new StringBuilder();
-        for (int place = 0; place < importer.many(5); place++) {
-            shown.append(place == 0 ? "" : " ").append(importer.kept(place));
-        }
-        return shown.toString();
-    }
-
     private static void faultsInOrder() {
         Tallow importer = parted("1|2\n3\n4|5|6\nx|\"7\"8\n\"9");
         importer.setShare(50);
-        check.same("faults row by row", faults(importer), "1,-1,4 2,-1,5 3,0,3 3,1,1 4,-1,4 4,0,2");
-        check.same("kept rows", keptRows(importer), "0");
+        check.same("faults row by row", Shown.faults(importer), "1,-1,4 2,-1,5 3,0,3 3,1,1 4,-1,4 4,0,2");
+        check.same("kept rows", Shown.kept(importer), "0");
         importer.tell(2, 1);
-        check.same("the heading has no faults, but counts", faults(importer), "1,-1,4 2,-1,5 3,0,3 3,1,1 4,-1,4 4,0,2");
+        check.same("the heading has no faults, but counts", Shown.faults(importer), "1,-1,4 2,-1,5 3,0,3 3,1,1 4,-1,4 4,0,2");
         Tallow headed = parted("\"a\"b|c|d\n1|2|3\n");
         headed.tell(2, 1);
-        check.same("a fault of the heading is none", faults(headed), "");
-        check.same("the heading is not kept", keptRows(headed), "1");
+        check.same("a fault of the heading is none", Shown.faults(headed), "");
+        check.same("the heading is not kept", Shown.kept(headed), "1");
     }
 
     private static void firstFaultOfCell() {
@@ -59,57 +41,57 @@ public final class FaultsTest {
         importer.setShare(60);
         importer.setRule(0, 3);
         importer.setRule(1, 3);
-        check.same("one fault a cell", faults(importer), "2,0,1 2,1,6 3,0,7 3,1,7 4,1,1");
+        check.same("one fault a cell", Shown.faults(importer), "2,0,1 2,1,6 3,0,7 3,1,7 4,1,1");
     }
 
     private static void faultsOfRules() {
         String text = "1|a\n1|a\n|b\n2|b\n|c\n";
         Tallow importer = parted(text);
-        check.same("no rule", faults(importer), "");
-        check.same("kept without rule", keptRows(importer), "0 2 3 4");
+        check.same("no rule", Shown.faults(importer), "");
+        check.same("kept without rule", Shown.kept(importer), "0 2 3 4");
         importer.setRule(0, 1);
-        check.same("rule 1", faults(importer), "2,0,6 4,0,6");
+        check.same("rule 1", Shown.faults(importer), "2,0,6 4,0,6");
         importer.setRule(0, 2);
-        check.same("rule 2", faults(importer), "1,0,7");
+        check.same("rule 2", Shown.faults(importer), "1,0,7");
         importer.setRule(0, 3);
-        check.same("rule 3", faults(importer), "1,0,7 2,0,6 4,0,6");
+        check.same("rule 3", Shown.faults(importer), "1,0,7 2,0,6 4,0,6");
         importer.setRule(0, 0);
         importer.setRule(1, 2);
-        check.same("rule 2 of the next column", faults(importer), "1,1,7 3,1,7");
-        check.same("kept with that", keptRows(importer), "0 2 4");
+        check.same("rule 2 of the next column", Shown.faults(importer), "1,1,7 3,1,7");
+        check.same("kept with that", Shown.kept(importer), "0 2 4");
         Tallow wrongAhead = parted("1|2\n5\n5|6\n");
         wrongAhead.setRule(0, 2);
-        check.same("the same signs in a row that is not right", faults(wrongAhead), "1,-1,4 2,0,7");
+        check.same("the same signs in a row that is not right", Shown.faults(wrongAhead), "1,-1,4 2,0,7");
         Tallow heading = parted("1|2\n1|3\n");
         heading.tell(2, 1);
         heading.setRule(0, 2);
-        check.same("the same signs in the heading", faults(heading), "");
+        check.same("the same signs in the heading", Shown.faults(heading), "");
         Tallow notThere = parted("1|2\n3|4\n");
         notThere.setRule(2, 3);
-        check.same("a rule of a column that is not there", faults(notThere), "");
+        check.same("a rule of a column that is not there", Shown.faults(notThere), "");
         Tallow widerCell = parted("1|2|\n3|4\n5|6\n");
         widerCell.setRule(2, 1);
-        check.same("a cell behind the columns has no fault", faults(widerCell), "0,-1,5");
+        check.same("a cell behind the columns has no fault", Shown.faults(widerCell), "0,-1,5");
         Tallow value = parted("1|\n01|\n");
         value.setRule(0, 2);
-        check.same("the same value in other signs", faults(value), "");
+        check.same("the same value in other signs", Shown.faults(value), "");
     }
 
     private static void faultsOfWideRows() {
         String cells = "a|b|c|d|e|f|g|h|i|j|k|l|m|n|o|p|q|r|s|t";
         Tallow importer = parted(cells + "|u\n" + cells + "|v\n" + cells + "\n" + cells + "|x|y\n");
-        check.same("widths beyond twenty count", faults(importer), "2,-1,4 3,-1,5");
-        check.same("cells behind the twentieth do not differ", keptRows(importer), "0");
+        check.same("widths beyond twenty count", Shown.faults(importer), "2,-1,4 3,-1,5");
+        check.same("cells behind the twentieth do not differ", Shown.kept(importer), "0");
         Tallow quoted = parted(cells + "|\"u\"v\n" + cells + "|x\n");
-        check.same("a fault behind the twentieth cell is none", faults(quoted), "");
+        check.same("a fault behind the twentieth cell is none", Shown.faults(quoted), "");
     }
 
     private static void kept() {
         Tallow importer = parted("1|2\n3|4\n1|2\n\"1\"|2\n2|1\n3|4|5\n3|4\n");
-        check.same("each kept once", keptRows(importer), "0 1 4");
+        check.same("each kept once", Shown.kept(importer), "0 1 4");
         Tallow headed = Check.of("aa|bb\n1|2\naa\n3|4\n");
-        check.same("the heading is counted", keptRows(headed), "1 3");
-        check.same("a row with a fault does not hide one", keptRows(parted("1|2|3\n1|2\n4|5\n")), "1 2");
+        check.same("the heading is counted", Shown.kept(headed), "1 3");
+        check.same("a row with a fault does not hide one", Shown.kept(parted("1|2|3\n1|2\n4|5\n")), "1 2");
     }
 
     private static void values() {

@@ -2,6 +2,7 @@ import java.time.DateTimeException;
 import java.time.LocalDate;
 import java.time.temporal.ChronoUnit;
 import java.util.ArrayList;
+import java.util.Arrays;
 import java.util.Collections;
 import java.util.HashSet;
 import java.util.List;
@@ -11,7 +12,7 @@ import java.util.TreeMap;
 import java.util.regex.Matcher;
 import java.util.regex.Pattern;
 
-/** The document once more, written in another way: with the Java library, and all found anew for each answer. */
+/** The document once more, written in another way: with the Java library, and all found anew for each change. */
 final class Model {
     private static final Pattern DATE = Pattern.compile("([0-9]{1,2})/([0-9]{1,2})/([0-9]{4})");
 
@@ -19,6 +20,8 @@ final class Model {
     final int[] told = {-1, -1, -1};
     final int[] rules = new int[20];
     int share = 80;
+    private final Map<Integer, View> views = new TreeMap<>();
+    private String seen = "";
 
     /** A cell as it is read. */
     record Cell(String signs, boolean quoted, int fault) {
@@ -42,12 +45,21 @@ final class Model {
     }
 
     int score(int parter) {
-        View view = new View(parter);
+        View view = view(parter);
         return view.columns < 2 ? 0 : 100 * view.rowsOfUsualWidth() / view.rows.size() + view.columns;
     }
 
     View now() {
-        return new View(parter());
+        return view(parter());
+    }
+
+    View view(int parter) {
+        String state = text + Arrays.toString(told) + share + Arrays.toString(rules);
+        if (!state.equals(seen)) {
+            views.clear();
+            seen = state;
+        }
+        return views.computeIfAbsent(parter, View::new);
     }
 
     /** All that follows with one parter. */

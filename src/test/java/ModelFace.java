@@ -1,6 +1,7 @@
 import java.util.Collections;
 import java.util.HashSet;
 import java.util.List;
+import java.util.function.IntUnaryOperator;
 
 /** The public face, answered by the model. */
 final class ModelFace {
@@ -178,12 +179,43 @@ final class ModelFace {
 
     int keptWith(int parter) {
         argument(parter >= 0 && parter <= 3);
-        return model.new View(parter).kept.size();
+        return model.view(parter).kept.size();
     }
 
     int kindWith(int column, int share) {
         Model.View now = withColumn(column);
         argument(share >= 1 && share <= 100);
         return now.kindWith(column, share);
+    }
+
+    long digest() {
+        Model.View now = model.now();
+        long d = mixed(mixed(58075, 3, this::used), 4, this::score);
+        d = mixed(d, 7, this::many);
+        for (int row = 0; row < now.rows.size(); row++) {
+            int each = row;
+            d = d * 31 + width(row);
+            for (int column = 0; column < now.in(row).size(); column++) {
+                int place = column;
+                d = mixed(d, 5, what -> cell(each, place, what));
+            }
+        }
+        for (int column = 0; column < now.columns; column++) {
+            int each = column;
+            d = mixed(mixed(d, 5, what -> column(each, what)), 2, what -> extreme(each, what)) * 31 + sum(column);
+        }
+        for (int fault = 0; fault < now.faults.size(); fault++) {
+            int each = fault;
+            d = mixed(d, 3, what -> fault(each, what));
+        }
+        return mixed(mixed(d, now.kept.size(), this::kept), 4, this::keptWith);
+    }
+
+    private static long mixed(long start, int many, IntUnaryOperator numbers) {
+        long d = start;
+        for (int i = 0; i < many; i++) {
+            d = d * 31 + numbers.applyAsInt(i);
+        }
+        return d;
     }
 }

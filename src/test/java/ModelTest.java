@@ -2,6 +2,8 @@
 public final class ModelTest {
     private static final int RUNS = 1000;
     private static final int CALLS = 60;
+    /** An importer is used for so many calls alone. */
+    private static final int MOST_CALLS = 512;
     private static final Check check = new Check("ModelTest");
 
     private static final String[] CELLS = {"", "", " ", "1", "2", "1", "-3", "7", "2.5", "-0.25", "1.5", "2,5", "-1,75",
@@ -11,6 +13,7 @@ public final class ModelTest {
     private static final String LOOSE = ",;\t|\"\"\n\n  .-//001122ayn";
 
     private long state;
+    private int made = 0;
 
     /** An answer, or the exception that came instead of it. */
     private interface Answer {
@@ -44,16 +47,20 @@ public final class ModelTest {
             for (int call = 0; call < CALLS; call++) {
                 compare(run, program, model);
             }
+            both(run, "digest", program::digest, model::digest);
             if (draw(2) == 0) {
                 both(run, "clear", program::clear, model::clear);
             }
         }
     }
 
+    /** Leaves some calls to look at what is written, and in most runs some to write more. */
     private void writeText(Tallow program, ModelFace model, String text) {
-        for (int i = 0; i < text.length() && program.many(0) < 500; i++) {
+        int last = MOST_CALLS - 12 - draw(3) * CALLS;
+        for (int i = 0; i < text.length() && model.model.text.length() < 500 && made < last; i++) {
             program.sign(Check.SIGNS.indexOf(text.charAt(i)));
             model.sign(Check.SIGNS.indexOf(text.charAt(i)));
+            made++;
         }
     }
 
@@ -92,6 +99,10 @@ public final class ModelTest {
     }
 
     private void both(int run, String call, Answer program, Answer model) {
+        if (made == MOST_CALLS) {
+            return;
+        }
+        made++;
         check.same("run " + run + ": " + call, answerOf(program), answerOf(model));
     }
 
@@ -165,8 +176,8 @@ public final class ModelTest {
     }
 
     private void compareReading(int run, Tallow program, ModelFace model) {
-        int row = near(Math.max(0, program.many(1) - 1));
-        int column = near(draw(4) == 0 ? 20 : Math.max(0, program.many(2) - 1));
+        int row = near(Math.max(0, model.many(1) - 1));
+        int column = near(draw(4) == 0 ? 20 : Math.max(0, model.many(2) - 1));
         int what = near(4);
         switch (draw(6)) {
             case 0:
@@ -193,7 +204,7 @@ public final class ModelTest {
     }
 
     private void compareColumns(int run, Tallow program, ModelFace model) {
-        int column = near(Math.max(0, program.many(2) - 1));
+        int column = near(Math.max(0, model.many(2) - 1));
         int what = near(draw(2) == 0 ? 1 : 4);
         int share = near(100);
         switch (draw(5)) {
@@ -218,9 +229,9 @@ public final class ModelTest {
     }
 
     private void compareKept(int run, Tallow program, ModelFace model) {
-        int place = near(Math.max(0, program.many(5) - 1));
-        int column = near(Math.max(0, program.many(2) - 1));
-        int fault = near(program.many(4));
+        int place = near(Math.max(0, model.many(5) - 1));
+        int column = near(Math.max(0, model.many(2) - 1));
+        int fault = near(model.many(4));
         int what = near(3);
         switch (draw(5)) {
             case 0:
@@ -235,8 +246,8 @@ public final class ModelTest {
                     () -> program.value(place, column), () -> model.value(place, column));
                 break;
             case 3:
-                boolean isThere = place >= 0 && place < program.many(5) && column >= 0 && column < program.many(2);
-                int value = isThere ? program.value(place, column) : what;
+                boolean isThere = place >= 0 && place < model.many(5) && column >= 0 && column < model.many(2);
+                int value = isThere ? model.value(place, column) : what;
                 both(run, "find " + column + ", " + value,
                     () -> program.find(column, value), () -> model.find(column, value));
                 break;

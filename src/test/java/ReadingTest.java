@@ -25,21 +25,6 @@ public final class ReadingTest {
         check.end();
     }
 
-    /** All cells of all rows by their signs: a cell behind each '<', a row behind each '#' and its width. */
-    private static String shown(Tallow importer) {
-        StringBuilder shown = new StringBuilder();
-        for (int row = 0; row < importer.many(1); row++) {
-            shown.append('#').append(importer.width(row));
-            for (int column = 0; column < Math.min(20, importer.width(row)); column++) {
-                shown.append('<');
-                for (int place = 0; place < importer.cell(row, column, 2); place++) {
-                    shown.append(Check.SIGNS.charAt(importer.signAt(row, column, place)));
-                }
-            }
-        }
-        return shown.toString();
-    }
-
     private static Tallow parted(String text, int parter) {
         Tallow importer = Check.of(text);
         importer.tell(0, parter);
@@ -133,17 +118,17 @@ public final class ReadingTest {
     }
 
     private static void rowsAndWidths() {
-        check.same("no text", shown(new Tallow()), "");
-        check.same("an end alone", shown(Check.of("\n")), "");
-        check.same("spaces alone", shown(Check.of("  \n \n   ")), "");
-        check.same("a quoted cell without signs is a row", shown(Check.of("\"\"\n")), "#1<");
-        check.same("a quote alone is a row", shown(Check.of("\"")), "#1<");
-        check.same("two empty cells are a row", shown(parted(",\n", 0)), "#2<<");
-        check.same("a parter at the end", shown(parted("a,", 0)), "#2<a<");
-        check.same("an end behind the last row", shown(parted("a,b\n", 0)), "#2<a<b");
-        check.same("no end behind the last row", shown(parted("a,b\nc", 0)), "#2<a<b#1<c");
-        check.same("rows without signs between", shown(parted("a\n\n \nb", 0)), "#1<a#1<b");
-        check.same("other parters are signs", shown(parted("a;b|c,d", 0)), "#2<a;b|c<d");
+        check.same("no text", Shown.cells(new Tallow()), "");
+        check.same("an end alone", Shown.cells(Check.of("\n")), "");
+        check.same("spaces alone", Shown.cells(Check.of("  \n \n   ")), "");
+        check.same("a quoted cell without signs is a row", Shown.cells(Check.of("\"\"\n")), "#1<");
+        check.same("a quote alone is a row", Shown.cells(Check.of("\"")), "#1<");
+        check.same("two empty cells are a row", Shown.cells(parted(",\n", 0)), "#2<<");
+        check.same("a parter at the end", Shown.cells(parted("a,", 0)), "#2<a<");
+        check.same("an end behind the last row", Shown.cells(parted("a,b\n", 0)), "#2<a<b");
+        check.same("no end behind the last row", Shown.cells(parted("a,b\nc", 0)), "#2<a<b#1<c");
+        check.same("rows without signs between", Shown.cells(parted("a\n\n \nb", 0)), "#1<a#1<b");
+        check.same("other parters are signs", Shown.cells(parted("a;b|c,d", 0)), "#2<a;b|c<d");
         check.same("of several widths the greatest is usual", parted("a\nb,c\nd\ne,f\ng,h,i", 0).many(2), 2);
         check.same("the usual width is the most frequent", parted("a\nb,c,d\ne\n", 0).many(2), 1);
         Tallow importer = parted("a,b,c\nd\n", 0);
@@ -183,14 +168,14 @@ public final class ReadingTest {
     }
 
     private static void quotedCells() {
-        check.same("parters, ends and spaces in quotes", shown(parted("\" a,\n;\",b", 0)), "#2< a,\n;<b");
-        check.same("two quotes stand for one", shown(parted("\"a\"\"b\",c", 0)), "#2<a\"b<c");
-        check.same("four quotes are one", shown(parted("\"\"\"\",c", 0)), "#2<\"<c");
-        check.same("signs behind the last quote", shown(parted("\"a\" b\"c\"\"d ,e", 0)), "#2<a b\"c\"\"d <e");
-        check.same("an open quote", shown(parted("a,\"b,c\nd", 0)), "#2<a<b,c\nd");
-        check.same("an open quote behind a double one", shown(parted("\"a\"\"", 0)), "#1<a\"");
-        check.same("a quote behind a space is a sign", shown(parted(" \"a\",b", 0)), "#2<\"a\"<b");
-        check.same("a quote behind a letter is a sign", shown(parted("a\"b\",c", 0)), "#2<a\"b\"<c");
+        check.same("parters, ends and spaces in quotes", Shown.cells(parted("\" a,\n;\",b", 0)), "#2< a,\n;<b");
+        check.same("two quotes stand for one", Shown.cells(parted("\"a\"\"b\",c", 0)), "#2<a\"b<c");
+        check.same("four quotes are one", Shown.cells(parted("\"\"\"\",c", 0)), "#2<\"<c");
+        check.same("signs behind the last quote", Shown.cells(parted("\"a\" b\"c\"\"d ,e", 0)), "#2<a b\"c\"\"d <e");
+        check.same("an open quote", Shown.cells(parted("a,\"b,c\nd", 0)), "#2<a<b,c\nd");
+        check.same("an open quote behind a double one", Shown.cells(parted("\"a\"\"", 0)), "#1<a\"");
+        check.same("a quote behind a space is a sign", Shown.cells(parted(" \"a\",b", 0)), "#2<\"a\"<b");
+        check.same("a quote behind a letter is a sign", Shown.cells(parted("a\"b\",c", 0)), "#2<a\"b\"<c");
         Tallow importer = parted("\"a\",\"b\"c,\"d\" ,e\"f,\"\",\"1\"\"", 0);
         int[] faults = {0, 1, 1, 0, 0, 2};
         int[] quoted = {1, 1, 1, 0, 1, 1};
@@ -207,12 +192,12 @@ public final class ReadingTest {
     }
 
     private static void spaces() {
-        check.same("spaces around a cell", shown(parted("  a  , b c ,   ", 0)), "#3<a<b c<");
+        check.same("spaces around a cell", Shown.cells(parted("  a  , b c ,   ", 0)), "#3<a<b c<");
         Tallow importer = parted(" 12 ,  ", 0);
         check.same("kind of a number in spaces", importer.cell(0, 0, 0), 1);
         check.same("signs of a number in spaces", importer.cell(0, 0, 2), 2);
         check.same("kind of spaces", importer.cell(0, 1, 0), 0);
-        check.same("a tab is no space", shown(parted("\ta\t,b", 0)), "#2<\ta\t<b");
+        check.same("a tab is no space", Shown.cells(parted("\ta\t,b", 0)), "#2<\ta\t<b");
     }
 
     private static void kind(String cell, int kind, int value) {
@@ -318,9 +303,9 @@ public final class ReadingTest {
 
     /** The first and the last day of each month, and the day behind that, which is none. */
     private static void allMonths() {
-        Tallow importer = parted("", 3);
         int days = 0;
         for (int year = 1900; year <= 2099; year++) {
+            Tallow importer = parted("", 3);
             for (int month = 1; month <= 12; month++) {
                 int length = YearMonth.of(year, month).lengthOfMonth();
                 importer.clear();

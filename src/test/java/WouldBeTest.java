@@ -1,3 +1,5 @@
+import java.util.function.Supplier;
+
 /** Promises 24 to 26: keptWith, kindWith and digest. */
 public final class WouldBeTest {
     private static final Class<IllegalArgumentException> BAD_ARGUMENT = IllegalArgumentException.class;
@@ -66,54 +68,29 @@ public final class WouldBeTest {
             due = due * 31;
         }
         check.same("digest without text", new Tallow().digest(), due);
-        check.same("digest of a table", Check.of("a|b\n1|\"2\"\n3\n").digest(), ofAll(Check.of("a|b\n1|\"2\"\n3\n")));
+        digest("a table", () -> Check.of("a|b\n1|\"2\"\n3\n"));
         String wide = "y,n,1,2,3.5,a,b,1/1/2000,,,,,,,,,,,,\"x\"z,q\n";
-        check.same("digest of wide rows", Check.of(wide + wide).digest(), ofAll(Check.of(wide + wide)));
-        Tallow told = Check.of(wide);
-        told.tell(0, 3);
-        told.tell(2, 1);
-        check.same("digest with a parter told", told.digest(), ofAll(told));
-        check.same("digest twice", told.digest(), told.digest());
+        digest("wide rows", () -> Check.of(wide + wide));
+        digest("a text with a parter told", () -> {
+            Tallow told = Check.of(wide);
+            told.tell(0, 3);
+            told.tell(2, 1);
+            return told;
+        });
+    }
+
+    private static void digest(String what, Supplier<Tallow> maker) {
+        Tallow importer = maker.get();
+        long first = importer.digest();
+        check.same("digest of " + what, first, ofAll(maker));
+        check.same("digest of " + what + " twice", importer.digest(), first);
     }
 
     /** The digest, computed from the other calls. */
-    private static long ofAll(Tallow importer) {
+    private static long ofAll(Supplier<Tallow> maker) {
         long d = 58075;
-        for (int what = 0; what <= 2; what++) {
-            d = d * 31 + importer.used(what);
-        }
-        for (int parter = 0; parter <= 3; parter++) {
-            d = d * 31 + importer.score(parter);
-        }
-        for (int what = 0; what <= 6; what++) {
-            d = d * 31 + importer.many(what);
-        }
-        for (int row = 0; row < importer.many(1); row++) {
-            d = d * 31 + importer.width(row);
-            for (int column = 0; column < Math.min(20, importer.width(row)); column++) {
-                for (int what = 0; what <= 4; what++) {
-                    d = d * 31 + importer.cell(row, column, what);
-                }
-            }
-        }
-        for (int column = 0; column < importer.many(2); column++) {
-            for (int what = 0; what <= 4; what++) {
-                d = d * 31 + importer.column(column, what);
-            }
-            d = d * 31 + importer.extreme(column, 0);
-            d = d * 31 + importer.extreme(column, 1);
-            d = d * 31 + importer.sum(column);
-        }
-        for (int fault = 0; fault < importer.many(4); fault++) {
-            for (int what = 0; what <= 2; what++) {
-                d = d * 31 + importer.fault(fault, what);
-            }
-        }
-        for (int place = 0; place < importer.many(5); place++) {
-            d = d * 31 + importer.kept(place);
-        }
-        for (int parter = 0; parter <= 3; parter++) {
-            d = d * 31 + importer.keptWith(parter);
+        for (long x : Shown.numbersOfDigest(maker)) {
+            d = d * 31 + x;
         }
         return d;
     }
