@@ -123,6 +123,8 @@ public final class ColumnBoundsTest {
         column("\"\"", 4, 0);
         column("\"\" \"\" a \"\"", 4, 1);
         column("1 01 1.0 \"1\"", 4, 3);
+        check.same("60 other ones", Texts.column(numbers(10, 70)).column(0, 4), 60);
+        check.same("59 other ones", Texts.column(numbers(11, 70) + " 11").column(0, 4), 59);
         check.same("signs of the next column", Texts.data("a|b\nb|a").column(0, 4), 2);
         check.same("of short rows", Texts.data("a|b\na\nc|d\nc").column(0, 4), 2);
         check.same("without the cells that short rows have not", Texts.data("a|b\na\nc|d\nc").column(1, 4), 2);
@@ -133,6 +135,14 @@ public final class ColumnBoundsTest {
         Tallow same = Texts.data("a\nb");
         same.tell(2, 1);
         check.same("as the heading, no more", same.column(0, 4), 1);
+    }
+
+    private static String numbers(int from, int to) {
+        StringBuilder shown = new StringBuilder();
+        for (int number = from; number < to; number++) {
+            shown.append(number == from ? "" : " ").append(number);
+        }
+        return shown.toString();
     }
 
     private static void columnOfNone() {

@@ -100,6 +100,10 @@ public final class WouldBeBoundsTest {
         check.same("MARK told", mark.keptWith(1), 3);
         mark.tell(0, 3);
         check.same("with a PARTER told", mark.keptWith(1), 3);
+        mark.tell(1, -1);
+        check.same("MARK as it is now", mark.used(1), 0);
+        check.same("MARK guessed anew, other than now", mark.keptWith(1), 2);
+        mark.tell(1, 0);
         mark.setRule(1, 2);
         check.same("RULES hold", mark.keptWith(1), 2);
         mark.setRule(1, 0);

@@ -245,8 +245,9 @@ public final class WriteBoundsTest {
         importer.tell(1, 1);
         importer.tell(2, 1);
         importer.setShare(33);
-        importer.setRule(0, 1);
-        importer.setRule(19, 2);
+        for (int column = 0; column < 20; column++) {
+            importer.setRule(column, column % 4);
+        }
         importer.clear();
         for (int what = 0; what <= 6; what++) {
             check.same("many(" + what + ")", importer.many(what), 0);
@@ -255,9 +256,9 @@ public final class WriteBoundsTest {
         check.same("MARK told", importer.tell(1, 0), 1);
         check.same("HEADING told", importer.tell(2, 0), 1);
         check.same("SHARE", importer.setShare(80), 33);
-        check.same("RULE of 0", importer.setRule(0, 0), 1);
-        check.same("RULE of 1", importer.setRule(1, 0), 0);
-        check.same("RULE of 19", importer.setRule(19, 0), 2);
+        for (int column = 0; column < 20; column++) {
+            check.same("RULE of " + column, importer.setRule(column, 0), column % 4);
+        }
         Tallow guessing = Check.of("a|b\n1|2");
         guessing.clear();
         check.same("what was not told is guessed still", guessing.tell(0, 0), -1);
